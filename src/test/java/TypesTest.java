@@ -144,7 +144,7 @@ public final class TypesTest {
         Check.due("two lowest", x.found(4, 0), Check.NONE);
         Check.due("one below both", x.found(5, 0), 3);
         Check.due("two lowest again", x.found(5, 1), Check.NONE);
-        // An interface's own sort has no bodies of its own told behind it: only the class's row and what is above it.
+        // An interface that comes to a class further down counts for that class alone.
         x = Check.told("i;c99,0;c1;i0;c2,3;m0 2;m3 2;");
         Check.due("found(2, 2)", x.found(2, 2), 0);
         Check.due("found(4, 2)", x.found(4, 2), 1);
