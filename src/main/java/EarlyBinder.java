@@ -1020,7 +1020,7 @@ public final class EarlyBinder {
         int made = 0;
         final int[] goesTo = new int[MOST_BODIES];
         private final boolean allMade;
-        private final int[] layers = new int[MOST_BODIES + 1];
+        private final int[] layers = new int[MOST_BODIES];
         private boolean stands = false;
         private int loaded = 0;
         private int roots = 0;
@@ -1110,26 +1110,24 @@ public final class EarlyBinder {
                 return NONE;
             }
             int b = least(at(layers, length) & roots & reached);
-            for (int i = 1; i <= k && i <= MOST_BODIES; i++) {
+            for (int i = 1; i <= k && i < MOST_BODIES; i++) {
                 b = least(at(goesTo, b) & at(layers, length - i));
             }
             return b;
         }
 
         /**
-         * Layer d becomes the BODIES that need d calls to the body: from the end backwards, so that the
+         * Layer d becomes the BODIES that can come to the body by d calls: from the end backwards, so that the
          * least BODY of each next layer is the next of the first row. Ends at the first layer with a ROOT.
          */
         private int layTo(int body) {
             int layer = bit(body) & reached;
-            int seen = layer;
-            for (int d = 0; d <= MOST_BODIES && layer != 0; d++) {
+            for (int d = 0; d < MOST_BODIES && layer != 0; d++) {
                 layers[d] = layer;
                 if ((layer & roots) != 0) {
                     return d;
                 }
-                layer = whoCalls(layer) & ~seen;
-                seen |= layer;
+                layer = whoCalls(layer);
             }
             return NONE;
         }

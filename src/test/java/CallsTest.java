@@ -6,6 +6,7 @@ public final class CallsTest {
         superCalls();
         ringsAndWays();
         firstWay();
+        longRing();
         deadAndCould();
         refusals();
         Check.finish();
@@ -133,6 +134,43 @@ public final class CallsTest {
         Check.due("nearest: 0th", x.way(5, 0), 1);
         Check.due("k below NONE", x.way(5, -2), Check.OUTSIDE);
         Check.due("k least", x.way(5, Integer.MIN_VALUE), Check.OUTSIDE);
+    }
+
+    /** A ring through 16 bodies, its steps told backwards: each round of a plain search finds but one body more. */
+    private static void longRing() {
+        StringBuilder text = new StringBuilder("c99;c99;c99;");
+        for (int b = 0; b < 16; b++) {
+            text.append('m').append(b / 6).append(' ').append(b % 6).append(';');
+        }
+        for (int b = 15; b >= 0; b--) {
+            int next = (b + 1) % 16;
+            text.append('v').append(b).append(' ').append(next / 6).append(' ').append(next % 6).append(';');
+        }
+        EarlyBinder x = Check.told(text + "n5 1;n0 0;");
+        x.load(0);
+        x.load(1);
+        x.root(0, true);
+        Check.due("half the ring", x.told(8), (1 << 12) - 1);
+        Check.due("no ring yet", x.body(0, 4), 0);
+        Check.due("could: class 2 is not loaded", x.told(10), (1 << 12) - 1);
+        x.load(2);
+        Check.due("class 2 is loaded, not made", x.told(8), (1 << 12) - 1);
+        Check.due("could: the whole ring", x.told(10), (1 << 16) - 1);
+        x = Check.told(text + "n5 1;n11 2;n0 0;");
+        x.load(0);
+        x.load(1);
+        x.load(2);
+        x.root(0, true);
+        for (int b = 0; b < 16; b++) {
+            Check.due("on the ring: " + b, x.body(b, 4), 1);
+            Check.due("way to " + b, x.way(b, -1), b);
+            Check.due("way to 15, the BODY " + b, x.way(15, b), b);
+            Check.due("callers of " + b, x.callers(b), 1 << (b + 15) % 16);
+        }
+        Check.due("way to 15 ends", x.way(15, 16), Check.NONE);
+        x.root(0, false);
+        x.root(6, true);
+        Check.due("from elsewhere nothing is made", x.told(8), 1 << 6);
     }
 
     private static void deadAndCould() {
