@@ -11,6 +11,7 @@ public final class TypesTest {
         makersOfClasses();
         foundInClasses();
         foundInInterfaces();
+        twelveDeep();
         Check.finish();
     }
 
@@ -148,5 +149,16 @@ public final class TypesTest {
         x = Check.told("i;c99,0;c1;i0;c2,3;m0 2;m3 2;");
         Check.due("found(2, 2)", x.found(2, 2), 0);
         Check.due("found(4, 2)", x.found(4, 2), 1);
+    }
+
+    private static void twelveDeep() {
+        EarlyBinder x = Check.told("c99;c0;c1;c2;c3;c4;c5;c6;c7;c8;c9;c10;m0 0;m11 0;");
+        Check.due("depth", x.type(11, 3), 12);
+        Check.due("above all", x.type(11, 1), 4095);
+        Check.due("below all", x.type(0, 2), 4095);
+        Check.due("found far up", x.found(10, 0), 0);
+        Check.due("over far up", x.body(1, 5), 0);
+        Check.due("common far up", x.common(11, 0), 0);
+        Check.due("load all", x.load(11), 12);
     }
 }
