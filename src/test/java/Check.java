@@ -3,10 +3,21 @@ final class Check {
     static final int NONE = EarlyBinder.NONE, UNKNOWN = EarlyBinder.UNKNOWN, OUTSIDE = EarlyBinder.OUTSIDE,
             WRONG = EarlyBinder.WRONG, NOT = EarlyBinder.NOT, FULL = EarlyBinder.FULL;
 
+    /** A call, or a row of calls, and its answer. */
+    interface Deed {
+        int on(EarlyBinder x);
+    }
+
     private static int wrong = 0;
     private static int asked = 0;
+    private static String sentence = "";
 
     private Check() {
+    }
+
+    /** The document's sentence that the answers from here on belong to. */
+    static void of(String words) {
+        sentence = "[" + words + "] ";
     }
 
     static void due(String call, long got, long want) {
@@ -14,7 +25,7 @@ final class Check {
         if (got != want) {
             wrong++;
             if (wrong <= 50) {
-                System.out.println(call + " answered " + got + ", due is " + want);
+                System.out.println(sentence + call + " answered " + got + ", due is " + want);
             }
         }
     }
@@ -63,28 +74,59 @@ final class Check {
             s.append(x.told(what)).append(' ');
         }
         s.append('f').append(x.fault());
+        allTypes(x, s);
+        allBodies(x, s);
+        allCalls(x, s);
+        allEntries(x, s);
+        return s.toString();
+    }
+
+    private static void allTypes(EarlyBinder x, StringBuilder s) {
         for (int t = 0; t < x.told(0); t++) {
+            s.append("\n  type ").append(t).append(':');
             for (int what = 0; what <= 5; what++) {
                 s.append(' ').append(x.type(t, what));
             }
+            s.append(' ').append(x.above(t)).append(' ').append(x.users(t)).append(' ').append(x.makers(t));
+            for (int m = 0; m < 6; m++) {
+                s.append(' ').append(x.found(t, m));
+            }
+            for (int u = 0; u < t; u++) {
+                s.append(' ').append(x.common(t, u)).append(' ').append(x.isBelow(t, u));
+            }
         }
+    }
+
+    private static void allBodies(EarlyBinder x, StringBuilder s) {
         for (int b = 0; b < x.told(1); b++) {
+            s.append("\n  body ").append(b).append(':');
             for (int what = 0; what <= 6; what++) {
                 s.append(' ').append(x.body(b, what));
             }
-            s.append(' ').append(x.callers(b));
+            s.append(' ').append(x.callers(b)).append(" way");
+            for (int k = -1; k <= x.way(b, -1); k++) {
+                s.append(' ').append(x.way(b, k));
+            }
         }
+    }
+
+    private static void allCalls(EarlyBinder x, StringBuilder s) {
         for (int c = 0; c < x.told(3); c++) {
+            s.append("\n  call ").append(c).append(':');
             for (int what = 0; what <= 6; what++) {
                 s.append(' ').append(x.call(c, what));
             }
+            s.append(' ').append(x.holds(c));
         }
-        for (int i = 0; i <= 16; i++) {
+    }
+
+    private static void allEntries(EarlyBinder x, StringBuilder s) {
+        s.append("\n  journal:");
+        for (int i = 0; i <= x.told(14); i++) {
             for (int what = 0; what <= 2; what++) {
                 s.append(' ').append(x.journal(i, what));
             }
         }
-        return s.toString();
     }
 
     static void same(String label, String got, String want) {
