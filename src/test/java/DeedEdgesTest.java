@@ -25,6 +25,8 @@ public final class DeedEdgesTest {
         undoneEight();
         undoneAll();
         undoneJournal();
+        bodiesInTheJournal();
+        bodiesOfAFullJournal();
         images();
         imagesGone();
         programStartsAnew();
@@ -249,9 +251,13 @@ public final class DeedEdgesTest {
         for (int seed = 1; seed <= 60; seed++) {
             bare.drift(40, seed);
             noCalls.drift(40, seed);
+            Check.due("no BODIES: ROOTS, " + seed, bare.told(6), 0);
+        }
+        for (int step = 1; step <= 40; step++) {
+            bare.drift(1, step);
+            Check.due("no BODIES: ROOTS, step by step", bare.told(6), 0);
         }
         Check.due("no BODIES: LOADED", bare.told(5), 1);
-        Check.due("no BODIES: ROOTS", bare.told(6), 0);
         Check.due("no BODIES, no CALLS: BOUND", bare.told(11), 0);
         Check.due("no CALLS: BOUND", noCalls.told(11), 0);
         Check.due("no CALLS: counted", noCalls.told(12), 0);
@@ -418,6 +424,65 @@ public final class DeedEdgesTest {
         Check.due("journal(0, 0) then", x.journal(0, 0), 3);
     }
 
+    private static void bodiesInTheJournal() {
+        Check.of("24 journal: 2 the BODY; 3 UNDONE, IMAGES: THE JOURNAL");
+        EarlyBinder x = Check.told("c99;c99;c1;m0 0;m1 0;m2 0;v0 0 0;v0 1 0;v0 2 0;");
+        x.load(0);
+        x.load(1);
+        x.bindAll();
+        x.keep(0);
+        entries(x, 1, 0);
+        x.load(2);
+        entries(x, 1, 1, 0);
+        x.bindAll();
+        entries(x, 2, 1, 1, 0);
+        x.undo();
+        entries(x, 1, 1, 0);
+        x.undo();
+        entries(x, 1, 0);
+        x.loose(0);
+        x.bind(0);
+        x.loose(0);
+        x.bind(0);
+        entries(x, 0, 0, 1, 0);
+        x.undo();
+        x.undo();
+        x.undo();
+        x.undo();
+        entries(x, 1, 0);
+        x.load(2);
+        x.bindAll();
+        x.goBack(0);
+        entries(x, 1, 0);
+    }
+
+    private static void bodiesOfAFullJournal() {
+        Check.of("2 THE JOURNAL keeps the latest 16: what an undone entry had pushed out is back, with its BODY");
+        EarlyBinder x = Check.told("c99;c99;m0 0;m1 0;" + "v0 0 0;".repeat(8) + "v0 1 0;".repeat(8));
+        x.load(0);
+        x.load(1);
+        x.bindAll();
+        x.keep(1);
+        entries(x, 1, 1, 1, 1, 1, 1, 1, 1, 0, 0, 0, 0, 0, 0, 0, 0);
+        x.loose(15);
+        x.bind(15);
+        entries(x, 1, 1, 1, 1, 1, 1, 1, 1, 1, 0, 0, 0, 0, 0, 0, 0);
+        x.undo();
+        entries(x, 1, 1, 1, 1, 1, 1, 1, 1, 0, 0, 0, 0, 0, 0, 0, 0);
+        x.bind(15);
+        x.goBack(1);
+        entries(x, 1, 1, 1, 1, 1, 1, 1, 1, 0, 0, 0, 0, 0, 0, 0, 0);
+    }
+
+    /** The BODIES of all entries, the latest first. */
+    private static void entries(EarlyBinder x, int... bodies) {
+        Check.due("told(14)", x.told(14), bodies.length);
+        for (int i = 0; i < bodies.length; i++) {
+            Check.due("journal(" + i + ", 2)", x.journal(i, 2), bodies[i]);
+        }
+        Check.due("journal(" + bodies.length + ", 2)", x.journal(bodies.length, 2), Check.NONE);
+    }
+
     private static void images() {
         Check.of("26 keep, 27 goBack: IMAGES 0, 1; (nothing can be undone then): 1. UNKNOWN, NOT: it was not kept");
         EarlyBinder x = Check.told(manyCalls(20));
@@ -496,6 +561,28 @@ public final class DeedEdgesTest {
         y.load(1);
         y.root(0, true);
         Check.same("and goes on so", Check.all(x), Check.all(y));
+        // The same LOADED and ROOTS in another program: asked at once, and after a faulty text of a deep program.
+        Check.due("REACHED", x.told(8), 3);
+        Check.due("COULD", x.told(10), 3);
+        Check.feed(x, "c99;c0;c1;c2;c3;c4;c5;m0 0;m1 0;m2 0;n0 1;n0 2;v0 0 0;s2 0;x");
+        x.program();
+        Check.feed(x, "c99;c0;c99;c99;m0 0;m2 0;m3 0;v0 0 0;");
+        x.program();
+        x.load(1);
+        x.root(0, true);
+        Check.due("REACHED in another program", x.told(8), 1);
+        Check.due("COULD in another program", x.told(10), 1);
+        for (int t = 0; t < 4; t++) {
+            Check.due("ABOVE " + t + " in another program", x.type(t, 1), t == 1 ? 3 : 1 << t);
+            Check.due("BELOW " + t + " in another program", x.type(t, 2), t == 0 ? 3 : 1 << t);
+        }
+        Check.feed(x, "c99;m0 0;m0 1;n0 0;v0 0 1;x");
+        x.program();
+        Check.feed(x, "c99;m0 0;m0 1;n0 0;");
+        x.program();
+        x.load(0);
+        x.root(0, true);
+        Check.due("a STEP of the faulty text", x.body(0, 6), 0);
         Check.of("3 program: -10 less the number of its FAULT");
         String[] faulty = {"x", "c0;", "i;".repeat(13), "i;c0;"};
         for (int number = 1; number <= 4; number++) {

@@ -30,6 +30,7 @@ public final class TellingEdgesTest {
         rootsOfLoadedTypes();
         deadAndCould();
         ways();
+        firstRowOfMany();
         twentyBodiesInARow();
         Check.finish();
     }
@@ -227,6 +228,17 @@ public final class TellingEdgesTest {
         Check.due("makers(2)", x.makers(2), 2);
         Check.due("makers(3): nobody", x.makers(3), 0);
         Check.due("makers(1)", x.makers(1), Check.WRONG);
+        x = Check.told("c99;m0 0;v0 0 0;");
+        Check.due("makers(0): nobody, no STEP makes", x.makers(0), 0);
+        x = Check.told("c99;m0 0;" + "n0 0;".repeat(3) + "v0 0 0;");
+        Check.feed(x, "x");
+        x.program();
+        Check.feed(x, "c99;m0 0;n0 0;n0 0;x");
+        x.program();
+        Check.feed(x, "c99;m0 0;v0 0 0;");
+        x.program();
+        Check.due("makers(0): nobody in this program", x.makers(0), 0);
+        Check.due("its STEPS", x.body(0, 2), 1);
     }
 
     private static void foundOrNone() {
@@ -257,6 +269,11 @@ public final class TellingEdgesTest {
         Check.due("none has one", x.found(4, 4), Check.NONE);
         Check.due("the other is not above the CLASS", x.found(5, 0), 1);
         Check.due("told beside the one above it", x.found(6, 0), 1);
+        x = Check.told("c99;i;i;c99,2;c99,1,2;m0 0;m2 0;");
+        Check.due("what the CLASS is not below does not count", x.found(3, 0), 1);
+        Check.due("an INTERFACE without one does not count", x.found(4, 0), 1);
+        x = Check.told("i;i;c99,0,1;m1 0;");
+        Check.due("nor the first without one", x.found(2, 0), 0);
         x = Check.told(types + "m3 0;m1 0;m2 0;c4;c99;c8,3;m8 0;m7 1;");
         Check.due("one below both, without one of 0", x.found(7, 0), 0);
         Check.due("a CLASS far above goes ahead of an INTERFACE", x.found(9, 0), 3);
@@ -272,6 +289,10 @@ public final class TellingEdgesTest {
         }
         Check.due("body(0, 2)", x.body(0, 2), 2);
         Check.due("body(2, 2): no STEPS", x.body(2, 2), 0);
+        x.load(2);
+        x.root(2, true);
+        Check.due("body(2, 3): not LOADED alone, a ROOT", x.body(2, 3), 1);
+        Check.due("body(0, 3): LOADED, not REACHED", x.body(0, 3), 0);
         x = Check.told("c99;m0 0;m0 1;" + "n1 0;".repeat(24));
         Check.due("all STEPS", x.body(1, 2), 24);
         Check.due("none of them", x.body(0, 2), 0);
@@ -323,6 +344,20 @@ public final class TellingEdgesTest {
         Check.due("callers(0)", x.callers(0), Check.set(1));
         Check.due("callers(2)", x.callers(2), Check.set(1));
         Check.due("callers(1)", x.callers(1), Check.set(0));
+        x.root(0, true);
+        x.root(1, false);
+        Check.due("callers(2), still", x.callers(2), Check.set(1));
+        x.root(0, false);
+        for (int b = 0; b < 3; b++) {
+            Check.due("REACHED no more: calls of " + b, x.body(b, 6), 0);
+            Check.due("REACHED no more: callers of " + b, x.callers(b), 0);
+        }
+        x = Check.told("c99;m0 0;m0 1;m0 2;n0 0;v0 0 1;v1 0 1;v2 0 1;v0 0 2;");
+        x.load(0);
+        x.root(0, true);
+        Check.due("callers(1): all, itself, too", x.callers(1), 7);
+        Check.due("callers(0): nobody", x.callers(0), 0);
+        Check.due("body(0, 6): two", x.body(0, 6), 6);
     }
 
     private static void callsWhat() {
@@ -446,6 +481,33 @@ public final class TellingEdgesTest {
             Check.due("not REACHED: " + k, x.way(2, k), Check.NONE);
         }
         Check.due("not REACHED: OUTSIDE all the same", x.way(2, -2), Check.OUTSIDE);
+    }
+
+    private static void firstRowOfMany() {
+        Check.of("3 WAY: on the first such row (BODY by BODY the least; the ROOT is the 0th)");
+        // 0 > 2 > 5, 3 > 5, 1 > 5 with 1 come to from 2 alone; 4 > 2, 4 > 3.
+        EarlyBinder x = Check.told("c99;m0 0;m0 1;m0 2;m0 3;m0 4;m0 5;n0 0;n4 0;"
+                + "v0 0 2;v2 0 5;v3 0 5;v1 0 5;v2 0 1;v4 0 3;v4 0 2;");
+        x.load(0);
+        x.root(4, true);
+        row(x, 5, 4, 2, 5);
+        x.root(0, true);
+        row(x, 5, 0, 2, 5);
+        x.root(3, true);
+        row(x, 5, 3, 5);
+        row(x, 1, 0, 2, 1);
+        x.root(1, true);
+        row(x, 5, 1, 5);
+        x.root(5, true);
+        row(x, 5, 5);
+    }
+
+    private static void row(EarlyBinder x, int b, int... due) {
+        Check.due("WAY to " + b, x.way(b, -1), due.length - 1);
+        for (int k = 0; k < due.length; k++) {
+            Check.due("WAY to " + b + ", the " + k + "th", x.way(b, k), due[k]);
+        }
+        Check.due("WAY to " + b + ", behind it", x.way(b, due.length), Check.NONE);
     }
 
     /**

@@ -380,6 +380,17 @@ public final class TextEdgesTest {
             }
         }
         read("i;c9", -12, 3);
+        // A longer text ahead of it has left its letters behind the end.
+        for (String old : new String[] {" ".repeat(240), "0".repeat(240), ";".repeat(240), ",".repeat(240)}) {
+            for (String part : new String[] {"i", "c", "c99", "c99,", "i;m0", "i;m0 ", "i;m0 0", "i;m0 0;v0 0 0"}) {
+                EarlyBinder x = new EarlyBinder();
+                Check.feed(x, old);
+                x.program();
+                Check.feed(x, part);
+                Check.due("program() of '" + part + "'", x.program(), -11);
+                Check.due("its end", x.fault(), part.length());
+            }
+        }
     }
 
     private static void firstLetterThenLeast() {
