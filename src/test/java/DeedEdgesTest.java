@@ -199,7 +199,7 @@ public final class DeedEdgesTest {
         }
     }
 
-    /** 9999 is beyond what 512 calls can reach (20 of a drift's 40 steps can bind): so this object is used for longer. */
+    /** 9999 is beyond what 512 calls can reach (20 of a drift's 40 steps can bind): this object is used for longer. */
     private static void counted() {
         Check.of("5 told: 12 how often one was BOUND (9999 at most)");
         EarlyBinder x = Check.told("c99;m0 0;" + "v0 0 0;".repeat(24));
@@ -296,7 +296,7 @@ public final class DeedEdgesTest {
 
     /** The same lots drawn by hand, deed by deed: a drift of one more step is a drift and that deed. */
     private static void driftAgainstDeeds() {
-        Check.of("3 BY LOTS: LOADED, if it is not; a ROOT, if not, else no more; BOUND, if it can be; loosed, if BOUND");
+        Check.of("3 BY LOTS: LOADED, if it is not; a ROOT, if not, else no more; BOUND, if it can be; loosed");
         for (int seed = 1; seed <= 40; seed++) {
             EarlyBinder byHand = Check.told(SMALL);
             long lot = seed;
@@ -343,7 +343,9 @@ public final class DeedEdgesTest {
             s.append(x.told(what)).append(' ');
         }
         for (int i = 0; i <= 16; i++) {
-            s.append('|').append(x.journal(i, 0)).append(' ').append(x.journal(i, 1)).append(' ').append(x.journal(i, 2));
+            for (int what = 0; what <= 2; what++) {
+                s.append(what == 0 ? '|' : ' ').append(x.journal(i, what));
+            }
         }
         for (int c = 0; c < x.told(3); c++) {
             s.append('/').append(x.call(c, 5));

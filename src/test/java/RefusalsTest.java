@@ -10,7 +10,7 @@ public final class RefusalsTest {
     private static final int LEAST = Integer.MIN_VALUE, GREATEST = Integer.MAX_VALUE;
     private static final int UNKNOWN = Check.UNKNOWN, OUTSIDE = Check.OUTSIDE, WRONG = Check.WRONG, NOT = Check.NOT,
             FULL = Check.FULL;
-    // Classes 0, 1 below 0, 2 below 1; interface 3; class 4 with 3. Calls 0 of 0, 1 of 1, 2 of 3, 3 of 4 (nothing found).
+    // Classes 0, 1 below 0, 2 below 1; interface 3; class 4 with 3. Calls of 0, 1, 3, and of 4, where nothing is found.
     private static final String SMALL = "c99;c0;c1;i;c99,3;m0 0;m1 0;m2 0;m3 1;v0 0 0;v0 1 0;v1 3 1;v0 4 5;n0 1;s2 0;";
     private static final String NEXT = "i;c99,0;m0 0;v0 0 0;";
 

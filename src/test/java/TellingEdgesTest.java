@@ -1,4 +1,4 @@
-/** Sections 2, 3 and promises 5 to 15 and 23, sentence by sentence: bounds of what is asked, nothing, one alone, all. */
+/** Sections 2, 3 and promises 5 to 15 and 23, sentence by sentence: bounds of what is asked, nothing, one, all. */
 public final class TellingEdgesTest {
     private static final int LEAST = Integer.MIN_VALUE, GREATEST = Integer.MAX_VALUE;
     // 0 i, 1 c99 with 0, 2 c1, 3 i, 4 c99; bodies 0 of 1, 1 of 2, 2 of 0; calls 0 of 1, 1 of 0
@@ -18,6 +18,7 @@ public final class TellingEdgesTest {
         belowAnother();
         makersOfClasses();
         foundOrNone();
+        twelveClassesUp();
         lowestInterfaceAlone();
         bodiesWhat();
         rings();
@@ -255,6 +256,19 @@ public final class TellingEdgesTest {
         }
         Check.due("found(0, 0)", x.found(0, 0), Check.WRONG);
         Check.due("found(0, 5): though it has one", x.found(0, 5), Check.WRONG);
+    }
+
+    private static void twelveClassesUp() {
+        Check.of("2 FOUND: the first of the CLASS, the one it is below, and so on, that has one: up to the twelfth");
+        EarlyBinder x = Check.told("c99;c0;c1;c2;c3;c4;c5;c6;c7;c8;c9;c10;m0 0;m11 1;m0 1;");
+        Check.due("found(11, 0)", x.found(11, 0), 0);
+        Check.due("OVER", x.body(1, 5), 2);
+        Check.of("9 common: up to the twelfth");
+        Check.due("common(11, 0)", x.common(11, 0), 0);
+        Check.due("common(0, 11)", x.common(0, 11), 0);
+        x = Check.told("i;c99,0;c1;c2;c3;c4;c5;c6;c7;c8;c9;c10;m0 0;");
+        Check.of("2 FOUND: if none has: of all INTERFACES ABOVE it: eleven CLASSES up");
+        Check.due("found(11, 0)", x.found(11, 0), 0);
     }
 
     private static void lowestInterfaceAlone() {
