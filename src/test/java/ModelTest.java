@@ -1,4 +1,8 @@
+import java.util.ArrayList;
+import java.util.HashSet;
+import java.util.List;
 import java.util.Random;
+import java.util.Set;
 
 /** Runs of calls drawn by lot (always the same), held against the Model: all promises, wrong inputs, faulty texts. */
 public final class ModelTest {
@@ -56,65 +60,103 @@ public final class ModelTest {
         due("fault()", x.fault(), y.fault());
     }
 
+    /** Either all types, then all bodies, then all steps, or clauses as they come. */
     private String drawn() {
         StringBuilder s = new StringBuilder();
+        told = new Told(1 + lots.nextInt(3), lots.nextInt(20) == 0);
+        boolean isMixed = lots.nextBoolean();
         int kinds = 1 + lots.nextInt(lots.nextInt(6) == 0 ? 13 : 10);
-        boolean[] isClass = new boolean[kinds];
-        for (int t = 0; t < kinds; t++) {
-            isClass[t] = lots.nextInt(3) > 0;
-            s.append(isClass[t] ? "c" : "i");
-            int parent = one(isClass, t, true);
-            if (isClass[t]) {
-                s.append(parent < 0 || lots.nextInt(4) == 0 ? 99 : parent);
-            }
-            int first = one(isClass, t, false);
-            if (first >= 0 && lots.nextInt(3) > 0) {
-                s.append(isClass[t] ? "," : "").append(first);
-                int second = one(isClass, t, false);
-                if (second != first && lots.nextBoolean()) {
-                    s.append(',').append(second);
-                }
-            }
-            s.append(';');
-        }
-        int messages = 1 + lots.nextInt(3);
-        boolean[] has = new boolean[kinds * 6];
-        int bodies = 0;
-        int[] owner = new int[kinds * 6];
-        for (int n = 0; n < 3 + lots.nextInt(14); n++) {
-            int t = lots.nextInt(kinds);
-            int m = lots.nextInt(messages);
-            if (!has[t * 6 + m]) {
-                has[t * 6 + m] = true;
-                owner[bodies++] = t;
-                s.append('m').append(t).append(' ').append(m).append(';');
-            }
-        }
-        for (int n = 0; n < 20 && s.length() < 232; n++) {
-            int b = lots.nextInt(bodies);
-            int t = lots.nextInt(kinds);
-            int m = lots.nextInt(messages);
-            int sort = lots.nextInt(5);
-            if (sort < 2 && isClass[t]) {
-                s.append('n').append(b).append(' ').append(t).append(';');
-            } else if (sort == 2 && isBelowOne(s, owner[b])) {
-                s.append('s').append(b).append(' ').append(m).append(';');
+        int bodies = kinds + 3 + lots.nextInt(lots.nextInt(6) == 0 ? 20 : 14);
+        for (int n = 0; n < 60 && s.length() < 225; n++) {
+            int place = isMixed && n > 0 ? lots.nextInt(bodies + 20) : n;
+            if (place < kinds) {
+                s.append(aType());
+            } else if (place < bodies) {
+                s.append(aBody());
             } else {
-                s.append('v').append(b).append(' ').append(t).append(' ').append(m).append(';');
+                s.append(aStep());
             }
         }
         return s.toString();
     }
 
-    private static boolean isBelowOne(StringBuilder s, int t) {
-        String clause = s.toString().split(";")[t];
-        return clause.startsWith("c") && !clause.startsWith("c99");
+    /** What is told so far of the text that is drawn. */
+    private static final class Told {
+        final int messages;
+        final boolean isOver;
+        int steps = 0;
+        final List<Boolean> isClass = new ArrayList<>();
+        final List<Boolean> isBelowOne = new ArrayList<>();
+        final List<Integer> owners = new ArrayList<>();
+        final Set<Integer> has = new HashSet<>();
+
+        /** isOver: the text may tell one too many. */
+        Told(int messages, boolean isOver) {
+            this.messages = messages;
+            this.isOver = isOver;
+        }
     }
 
-    private int one(boolean[] isClass, int below, boolean sort) {
-        for (int n = 0; n < 8 && below > 0; n++) {
-            int t = lots.nextInt(below);
-            if (isClass[t] == sort) {
+    private Told told;
+
+    private String aType() {
+        if (told.isClass.size() == 12 && !told.isOver) {
+            return "";
+        }
+        boolean isClass = lots.nextInt(3) > 0;
+        int parent = isClass && lots.nextInt(4) > 0 ? one(true) : -1;
+        String clause = !isClass ? "i" : "c" + (parent < 0 ? "99" : figures(parent));
+        int first = lots.nextInt(3) > 0 ? one(false) : -1;
+        int second = lots.nextBoolean() ? one(false) : -1;
+        if (first >= 0) {
+            clause += (isClass ? "," : "") + figures(first);
+            clause += second >= 0 && second != first ? "," + figures(second) : "";
+        }
+        told.isClass.add(isClass);
+        told.isBelowOne.add(parent >= 0);
+        return clause + blank() + ";";
+    }
+
+    private String aBody() {
+        int t = lots.nextInt(told.isClass.size());
+        int m = lots.nextInt(told.messages);
+        if (told.owners.size() == 20 && !told.isOver || !told.has.add(t * 6 + m)) {
+            return "";
+        }
+        told.owners.add(t);
+        return "m" + blank() + figures(t) + " " + figures(m) + ";";
+    }
+
+    private String aStep() {
+        if (told.owners.isEmpty() || told.steps == 24 && !told.isOver) {
+            return "";
+        }
+        told.steps++;
+        int b = lots.nextInt(told.owners.size());
+        int t = lots.nextInt(told.isClass.size());
+        String message = " " + figures(lots.nextInt(told.messages)) + ";";
+        int sort = lots.nextInt(5);
+        if (sort < 2 && told.isClass.get(t)) {
+            return "n" + figures(b) + " " + figures(t) + ";" + blank();
+        }
+        if (sort == 2 && told.isBelowOne.get(told.owners.get(b))) {
+            return "s" + figures(b) + message;
+        }
+        return "v" + figures(b) + " " + figures(t) + message;
+    }
+
+    private String figures(int number) {
+        return number < 10 && lots.nextInt(30) == 0 ? "0" + number : "" + number;
+    }
+
+    private String blank() {
+        return lots.nextInt(20) == 0 ? " " : "";
+    }
+
+    private int one(boolean isClass) {
+        for (int n = 0; n < 8 && !told.isClass.isEmpty(); n++) {
+            int t = lots.nextInt(told.isClass.size());
+            if (told.isClass.get(t) == isClass) {
                 return t;
             }
         }
@@ -123,7 +165,7 @@ public final class ModelTest {
 
     private String spoilt(String text) {
         StringBuilder s = new StringBuilder(text);
-        for (int n = 0; n <= lots.nextInt(3); n++) {
+        for (int n = 0; n <= lots.nextInt(3) && s.length() > 0; n++) {
             char letter = LETTERS.charAt(lots.nextInt(LETTERS.length()));
             int place = lots.nextInt(s.length());
             switch (lots.nextInt(4)) {

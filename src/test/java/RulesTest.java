@@ -1,6 +1,7 @@
 import java.io.IOException;
 import java.lang.management.ManagementFactory;
-import java.lang.reflect.Member;
+import java.lang.reflect.Field;
+import java.lang.reflect.Method;
 import java.lang.reflect.Modifier;
 import java.nio.file.Files;
 import java.nio.file.Path;
@@ -13,9 +14,14 @@ import java.util.regex.Pattern;
 
 /** The face of the document, and of LANGUAGE.md what can be seen from the file and the room. Runs in the project's folder. */
 public final class RulesTest {
-    private static final Set<String> FACE = Set.of("feed", "program", "fault", "told", "type", "above", "users", "common",
-            "isBelow", "makers", "found", "body", "callers", "call", "load", "root", "bind", "bindAll", "loose", "drift",
-            "undo", "way", "journal", "holds", "keep", "goBack");
+    private static final Set<String> FACE = Set.of("feed(int)", "program()", "fault()", "told(int)", "type(int,int)",
+            "above(int)", "users(int)", "common(int,int)", "isBelow(int,int)", "makers(int)", "found(int,int)",
+            "body(int,int)", "callers(int)", "call(int,int)", "load(int)", "root(int,boolean)", "bind(int)", "bindAll()",
+            "loose(int)", "drift(int,int)", "undo()", "way(int,int)", "journal(int,int)", "holds(int)", "keep(int)",
+            "goBack(int)");
+    private static final Set<String> CONSTANTS = Set.of("NONE", "UNKNOWN", "OUTSIDE", "WRONG", "NOT", "FULL");
+    private static final Set<Class<?>> ROWS_OF_NUMBERS = Set.of(int[].class, long[].class, char[].class, byte[].class);
+    private static final int MOST_LINES = 60, MOST_PARAMETERS = 7, MOST_FIELDS = 20, MOST_CLASSES = 12;
     private static final String[] FORBIDDEN = {"\\bthrow\\b", "\\btry\\b", "\\bcatch\\b", "\\bsynchronized\\b",
             "\\bassert\\b", "->", "::", "\\bObject\\b", "\\bSystem\\.(?!arraycopy)", "Exact\\(", "\\bThread\\b",
             "\\bvar\\b", "@"};
@@ -23,7 +29,9 @@ public final class RulesTest {
     public static void main(String[] args) throws IOException {
         constants();
         face();
-        source(Files.readString(Path.of("src/main/java/EarlyBinder.java")));
+        String file = Files.readString(Path.of("src/main/java/EarlyBinder.java"));
+        source(file);
+        lengths(file);
         room();
         Check.finish();
     }
@@ -38,22 +46,85 @@ public final class RulesTest {
     }
 
     private static void face() {
+        Class<?> binder = EarlyBinder.class;
+        is("the class is public and final", Modifier.isPublic(binder.getModifiers()) && Modifier.isFinal(binder.getModifiers()));
+        is("one constructor, public, of nothing", binder.getDeclaredConstructors().length == 1
+                && binder.getConstructors().length == 1 && binder.getConstructors()[0].getParameterCount() == 0);
         Set<String> seen = new TreeSet<>();
-        List<Member> members = new ArrayList<>(List.of(EarlyBinder.class.getDeclaredMethods()));
-        for (Member m : members) {
-            boolean isPublic = Modifier.isPublic(m.getModifiers());
-            Check.due(m + " is public or private", isPublic || Modifier.isPrivate(m.getModifiers()) ? 1 : 0, 1);
-            Check.due(m + " is of the face or not", FACE.contains(m.getName()) ? 1 : 0, isPublic ? 1 : 0);
-            if (isPublic) {
-                Check.due(m + " is there once", seen.add(m.getName()) ? 1 : 0, 1);
+        Set<String> names = new TreeSet<>();
+        for (String call : FACE) {
+            names.add(call.substring(0, call.indexOf('(')));
+        }
+        for (Method m : binder.getDeclaredMethods()) {
+            if (Modifier.isPublic(m.getModifiers())) {
+                seen.add(signature(m));
+                is(m + " answers an int", m.getReturnType() == int.class);
+            } else {
+                is(m + " is private", Modifier.isPrivate(m.getModifiers()));
+                is(m + " bears no name of the face", !names.contains(m.getName()));
             }
         }
-        Check.due("methods of the face", seen.size(), FACE.size());
-        for (Class<?> c : EarlyBinder.class.getDeclaredClasses()) {
-            Check.due(c + " is static", Modifier.isStatic(c.getModifiers()) ? 1 : 0, 1);
-            Check.due(c + ": fields", c.getDeclaredFields().length <= 22 ? 1 : 0, 1);
+        is("the public methods are those of the face: " + seen, seen.equals(FACE));
+        for (Field f : binder.getDeclaredFields()) {
+            boolean isConstant = CONSTANTS.contains(f.getName());
+            is(f + " is public, if a constant of the face, else private", isConstant
+                    ? Modifier.isPublic(f.getModifiers()) : Modifier.isPrivate(f.getModifiers()));
         }
-        Check.due("classes", EarlyBinder.class.getDeclaredClasses().length <= 12 ? 1 : 0, 1);
+        is("classes", binder.getDeclaredClasses().length <= MOST_CLASSES);
+        inside(binder);
+        for (Class<?> c : binder.getDeclaredClasses()) {
+            is(c + " is static", Modifier.isStatic(c.getModifiers()));
+            inside(c);
+        }
+    }
+
+    private static String signature(Method m) {
+        List<String> sorts = new ArrayList<>();
+        for (Class<?> sort : m.getParameterTypes()) {
+            sorts.add(sort.getName());
+        }
+        return m.getName() + "(" + String.join(",", sorts) + ")";
+    }
+
+    /** What holds for each class of the file. */
+    private static void inside(Class<?> c) {
+        int fields = 0;
+        for (Field f : c.getDeclaredFields()) {
+            if (Modifier.isStatic(f.getModifiers())) {
+                is(f + " is final", Modifier.isFinal(f.getModifiers()));
+                is(f + " is a constant", f.getType().isPrimitive() || f.getType() == String.class
+                        || ROWS_OF_NUMBERS.contains(f.getType()));
+            } else {
+                fields++;
+            }
+        }
+        is(c + ": fields", fields <= MOST_FIELDS);
+        for (Method m : c.getDeclaredMethods()) {
+            is(m + ": parameters", m.getParameterCount() <= MOST_PARAMETERS);
+        }
+    }
+
+    private static void is(String what, boolean so) {
+        Check.due(what, so ? 1 : 0, 1);
+    }
+
+    /** A method's lines lie between one that opens a block at a method's depth and the one that closes it. */
+    private static void lengths(String file) {
+        String[] lines = file.split("\n");
+        int methods = 0;
+        for (int i = 0; i < lines.length; i++) {
+            Matcher open = Pattern.compile("^(    |        )\\S.*\\) \\{$").matcher(lines[i]);
+            if (!open.matches()) {
+                continue;
+            }
+            int end = i;
+            while (end < lines.length && !lines[end].equals(open.group(1) + "}")) {
+                end++;
+            }
+            is(lines[i].trim() + ": lines", end - i < MOST_LINES);
+            methods++;
+        }
+        is("methods were seen: " + methods, methods > 80);
     }
 
     private static void source(String file) {
